@@ -167,8 +167,8 @@ public final class FrameSheets {
         if (!isBelow(f, current.size) || kind < ICON || kind >= KINDS) return BAD;
         Frame it = current.frames[f];
         if (!it.isOf(kind)) return refuse(UNLIKE);
-        if (kind == ICON) return Math.abs(it.trimmedAcross() - it.trimmedDown());
-        if (kind == BORDER) return it.needsPlaces() - it.trimmedAcross() * it.trimmedDown();
+        if (kind == ICON) return Math.abs(it.across - it.down);
+        if (kind == BORDER) return it.edgePlaces();
         return it.emptyPoints();
     }
 
@@ -271,9 +271,9 @@ public final class FrameSheets {
         if (!isBelow(column, it.w) || !isBelow(row, it.h)) return BAD;
         Layout now = story.now;
         if (!now.isSet(f)) return STATE;
-        int c = column - it.firstColumn();
-        int r = row - it.firstRow();
-        if (!isBelow(c, it.trimmedAcross()) || !isBelow(r, it.trimmedDown())) return NONE;
+        int c = column - it.firstColumn;
+        int r = row - it.firstRow;
+        if (!isBelow(c, it.across) || !isBelow(r, it.down)) return NONE;
         boolean turned = now.isTurned(f);
         int x = now.xOf(f) + it.edge + (turned ? r : c);
         int y = now.yOf(f) + it.edge + (turned ? c : r);
@@ -452,9 +452,9 @@ public final class FrameSheets {
         int across = x - now.xOf(f) - it.edge;
         int down = y - now.yOf(f) - it.edge;
         boolean turned = now.isTurned(f);
-        int column = nearest(turned ? down : across, it.trimmedAcross());
-        int row = nearest(turned ? across : down, it.trimmedDown());
-        return 100 * (column + it.firstColumn()) + row + it.firstRow();
+        int column = nearest(turned ? down : across, it.across);
+        int row = nearest(turned ? across : down, it.down);
+        return 100 * (column + it.firstColumn) + row + it.firstRow;
     }
 
     private static int nearest(int i, int bound) {
@@ -573,9 +573,20 @@ public final class FrameSheets {
         }
     }
 
-    /** A FRAME as its statement tells it, and the edge that it KEEPS on its SHEET. */
+    /** A FRAME as its statement tells it, and what follows from that on its SHEET. */
     private static final class Frame {
-        int kind, w, h, left, above, right, below, edge;
+        int kind, w, h, left, above, right, below;
+        /** Settled when the SHEET is read: the edge, what is TRIMMED to, the first point of that. */
+        int edge, across, down, firstColumn, firstRow;
+
+        void settle(int bleed) {
+            boolean isTrimmed = kind != LOGO;
+            edge = kind == BORDER ? bleed + 1 : bleed;
+            across = isTrimmed ? w - left - right : w;
+            down = isTrimmed ? h - above - below : h;
+            firstColumn = isTrimmed ? left : 0;
+            firstRow = isTrimmed ? above : 0;
+        }
 
         boolean isOf(int other) {
             return other == FRAME || kind == other || (kind == LOGO && other == ICON);
@@ -585,47 +596,31 @@ public final class FrameSheets {
             return !isOf(ICON);
         }
 
-        boolean isTrimmed() {
-            return kind != LOGO;
-        }
-
-        int firstColumn() {
-            return isTrimmed() ? left : 0;
-        }
-
-        int firstRow() {
-            return isTrimmed() ? above : 0;
-        }
-
-        int trimmedAcross() {
-            return isTrimmed() ? w - left - right : w;
-        }
-
-        int trimmedDown() {
-            return isTrimmed() ? h - above - below : h;
-        }
-
-        int emptyPoints() {
-            return w * h - (w - left - right) * (h - above - below);
-        }
-
         int needsAcross(boolean turned) {
-            return (turned ? trimmedDown() : trimmedAcross()) + 2 * edge;
+            return (turned ? down : across) + 2 * edge;
         }
 
         int needsDown(boolean turned) {
-            return needsAcross(!turned);
+            return (turned ? across : down) + 2 * edge;
         }
 
         int needsPlaces() {
             return needsAcross(false) * needsDown(false);
         }
 
+        int edgePlaces() {
+            return needsPlaces() - across * down;
+        }
+
+        int emptyPoints() {
+            return w * h - (w - left - right) * (h - above - below);
+        }
+
         int part(int what) {
             switch (what) {
                 case 0: return kind;
-                case 1: return trimmedAcross();
-                case 2: return trimmedDown();
+                case 1: return across;
+                case 2: return down;
                 case 3: return needsAcross(false);
                 default: return needsDown(false);
             }
@@ -645,10 +640,8 @@ public final class FrameSheets {
         }
 
         /** Only when the whole TEXT is read: bleed may stand behind the FRAMES. */
-        void settleEdges() {
-            for (int f = 0; f < size; f++) {
-                frames[f].edge = frames[f].isOf(BORDER) ? bleed + 1 : bleed;
-            }
+        void settle() {
+            for (int f = 0; f < size; f++) frames[f].settle(bleed);
         }
 
         int placesTaken(Layout layout, int page) {
@@ -696,7 +689,7 @@ public final class FrameSheets {
                 if (!readStatement()) return from;
             }
             if (draft.size == 0) return from;
-            draft.settleEdges();
+            draft.settle();
             return NONE;
         }
 

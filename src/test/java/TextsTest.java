@@ -42,6 +42,12 @@ public final class TextsTest {
         faultIs(4, "page");
         faultIs(0, "pag 4 4;");
         faultIs(0, "pages 4 4;");
+        faultIs(0, "pagez 4 4;");
+        faultIs(0, "pagea 4 4;");
+        faultIs(4, "page{ 4 4;");
+        faultIs(4, "page` 4 4;");
+        faultIs(6, "page 4/ 4;");
+        faultIs(6, "page 4: 4;");
         faultIs(0, "Page 4 4;");
         faultIs(0, "bleed 1;" + ONE);
         faultIs(0, ONE.substring(9));
