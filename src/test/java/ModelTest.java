@@ -56,6 +56,11 @@ public final class ModelTest {
         return dice.nextInt(12) == 0 ? n(-2, 9) : dice.nextInt(Math.max(1, model.count(0)));
     }
 
+    /** Mostly a number below a bound. */
+    private int upTo(int bound) {
+        return dice.nextInt(12) == 0 ? n(-1, 17) : dice.nextInt(Math.max(1, bound));
+    }
+
     private int page() {
         return dice.nextInt(12) == 0 ? n(-1, 8) : dice.nextInt(Math.max(1, model.count(2)));
     }
@@ -81,8 +86,8 @@ public final class ModelTest {
             }
             case "keep", "on" -> same(call, n(0, dice.nextInt(6) == 0 ? 3 : 2));
             case "free" -> same(call, page(), n(-1, 8), n(0, dice.nextInt(6) == 0 ? 4 : 3));
-            case "seen" -> same(call, page(), n(-1, 16) % 17, n(0, Math.max(1, model.count(4))));
-            case "point" -> same(call, f(), n(-1, 9), n(-1, 9));
+            case "seen" -> same(call, page(), upTo(model.count(3)), upTo(model.count(4)));
+            case "point" -> same(call, f(), upTo(5), upTo(5));
             case "used", "takes" -> same(call, page());
             case "would" -> same(call, n(-1, 4), n(-1, 3));
             case "lots" -> {
