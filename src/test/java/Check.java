@@ -5,16 +5,40 @@ final class Check {
 
     private static int done = 0;
     private static int wrong = 0;
+    private static int sentences = 0;
+    private static int doneBefore = 0;
+    private static String sentence = "";
+    private static String printed = "";
 
     private Check() {
     }
 
+    /** The sentence of the document that the answers from here on are due by. */
+    static void about(String words) {
+        closeSentence();
+        sentence = words;
+        sentences++;
+    }
+
+    private static void closeSentence() {
+        if (!sentence.isEmpty() && done == doneBefore) due("nothing", 1, 0);
+        doneBefore = done;
+    }
+
     /** The answer of a call against the one that is due. */
     static void due(String what, long want, long got) {
+        due(() -> what, want, got);
+    }
+
+    /** The same, where the words are dear: they are put together only for a wrong answer. */
+    static void due(java.util.function.Supplier<String> what, long want, long got) {
         done++;
         if (got == want) return;
         wrong++;
-        if (wrong <= 40) System.out.println(what + " answered " + got + ", due is " + want);
+        if (wrong > 40) return;
+        if (!sentence.isEmpty() && !sentence.equals(printed)) System.out.println("[" + sentence + "]");
+        printed = sentence;
+        System.out.println(what.get() + " answered " + got + ", due is " + want);
     }
 
     /** A call that answers 1 and tells a value by asked(). */
@@ -84,7 +108,8 @@ final class Check {
     }
 
     static void end() {
-        System.out.println(done + " answers, " + wrong + " wrong");
+        closeSentence();
+        System.out.println((sentences == 0 ? "" : sentences + " sentences, ") + done + " answers, " + wrong + " wrong");
         if (wrong != 0 || done == 0) System.exit(1);
     }
 }
