@@ -201,6 +201,9 @@ public final class FrameEdgesTest {
         one(BORDER, "1 1 0 0 0 0", 1).answers(25 - 1, "mark", 0, BORDER);
         one(BORDER, "1 1 0 0 0 0", 2).answers(49 - 1, "mark", 0, BORDER);
         one(BORDER, "4 5 1 1 0 1", 0).answers(25 - 9, "mark", 0, BORDER);
+        one(BORDER, "4 2 0 0 0 0", 0).answers(24 - 8, "mark", 0, BORDER);
+        one(BORDER, "2 4 0 0 0 0", 1).answers(48 - 8, "mark", 0, BORDER);
+        one(BORDER, "16 1 0 0 0 0", 2).answers(22 * 7 - 16, "mark", 0, BORDER);
         one(BORDER, "16 16 0 0 0 0", 2).answers(22 * 22 - 256, "mark", 0, BORDER);
     }
 

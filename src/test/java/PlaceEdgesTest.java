@@ -15,6 +15,7 @@ public final class PlaceEdgesTest {
         seenUntrimmed();
         seenEdge();
         seenTurned();
+        seenFarFromTheCorner();
         seenNone();
         point();
         pointTrimmed();
@@ -153,6 +154,31 @@ public final class PlaceEdgesTest {
         int[] rows = {2, 2, 3, 4, 4};
         int[] columns = {1, 1, 2, 2};
         for (int x = 0; x < 5; x++) for (int y = 0; y < 4; y++) s.tells(0, 100 * columns[y] + rows[x], "seen", 0, x, y);
+    }
+
+    private static int within(int i, int most) {
+        return Math.max(0, Math.min(i, most));
+    }
+
+    private static void seenFarFromTheCorner() {
+        Check.about("24, 25: wherever on its PAGE the FRAME lies, TURNED or not");
+        Scene s = Scene.sheet("page8 7;icon8 3 0 0 0 0;icon3 4 0 0 0 0;border3 3 1 1 0 0;frame4 1 0 0 0 0;").call("rule", 2).call("all", 0);
+        s.isAt(0, 0, 0, 0, 0).isAt(1, 0, 0, 3, 0).isAt(2, 0, 3, 3, 0).isAt(3, 0, 7, 3, 1);
+        for (int x = 0; x < 8; x++) {
+            for (int y = 0; y < 7; y++) {
+                if (y < 3) s.tells(0, 100 * x + y, "seen", 0, x, y);
+                else if (x < 3) s.tells(1, 100 * x + y - 3, "seen", 0, x, y);
+                else if (x < 7) s.tells(2, 100 * (1 + within(x - 4, 1)) + 1 + within(y - 4, 1), "seen", 0, x, y);
+                else s.tells(3, 100 * (y - 3), "seen", 0, x, y);
+            }
+        }
+        s.answers(505, "point", 2, 2, 2);
+        s.answers(706, "point", 3, 3, 0);
+        Scene t = Scene.sheet("page9 7;icon9 3 0 0 0 0;icon4 4 0 0 0 0;border2 3 0 0 0 0;").call("all", 0).isAt(2, 0, 4, 3, 1);
+        for (int x = 4; x < 9; x++) {
+            for (int y = 3; y < 7; y++) t.tells(2, 100 * within(y - 4, 1) + within(x - 5, 2), "seen", 0, x, y);
+        }
+        for (int c = 0; c < 2; c++) for (int r = 0; r < 3; r++) t.answers(100 * (5 + r) + 4 + c, "point", 2, c, r);
     }
 
     private static void seenNone() {

@@ -157,6 +157,8 @@ public final class RoomEdgesTest {
         String text = "page7 4;" + icons("2 4", "1 4", "4 2", "4 2", "1 2");
         holes(1, text, 4, 0, 2).isFree(0, 0, 0, 2, 4, 3, 0, 4, 2).gives(0, "set", 4).isAt(4, 0, 3, 0, 0);
         holes(1, text.replace("icon1 2 0", "icon2 1 0"), 4, 0, 2).gives(0, "set", 4).isAt(4, 0, 0, 0, 0);
+        String near = "page14 4;" + icons("3 3", "1 4", "10 1", "10 3", "3 1", "1 1");
+        holes(1, near, 5, 0, 2).isFree(0, 0, 0, 3, 3, 4, 0, 10, 1).gives(0, "set", 5).isAt(5, 0, 0, 0, 0);
     }
 
     private static void ruleLow() {

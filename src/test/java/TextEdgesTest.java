@@ -78,6 +78,13 @@ public final class TextEdgesTest {
         Scene behind = Scene.sheet(PAGE + "bleed 2;" + ONE).text(0, PAGE + ONE).gives(1, "sheet", 0);
         behind.answers(0, "count", 5);
         behind.tells(1, 1, "frame", 0, 3);
+        for (String other : new String[] {PAGE + "bleed 2;" + ONE, PAGE + "bleed 2;" + ONE + "x", PAGE + "bleed 2;"}) {
+            Scene read = Scene.bare().text(1, other).text(0, PAGE + ONE).call("fault", 1).gives(1, "sheet", 0);
+            read.answers(0, "count", 5);
+            read.tells(1, 1, "frame", 0, 3);
+            read.call("fault", 1).gives(1, "sheet", 0).call("sheet", 1).gives(1, "sheet", 0).answers(0, "count", 5);
+            read.tells(1, 1, "frame", 0, 3);
+        }
     }
 
     /** Seven are the most that 120 bytes can tell, so an eighth and a ninth can't be tried. */
@@ -466,6 +473,10 @@ public final class TextEdgesTest {
         shorter.answers(NONE, "fault", 2);
         shorter.finds(Check.BEYOND, "put", 2, 26, 0);
         s.copy().call("put", 0, 0, 0).gives(26, "write", 0).answers(NONE, "fault", 0);
+        Check.about("12: the SHEET is written out anew each time");
+        s.gives(26, "write", 3).gives(26, "write", 3).gives(26, "write", 1).answers(NONE, "fault", 1);
+        s.copy().text(0, "page4 4;" + "icon1 1 0 0 0 0;".repeat(7)).call("sheet", 0).call("write", 3).refuses(Check.SPENT, "write", 3);
+        s.copy().text(0, "page4 4;" + "icon1 1 0 0 0 0;".repeat(7)).call("sheet", 0).call("write", 0).call("sheet", 1).answers(26, "write", 0);
     }
 
     private static void writeBleed() {

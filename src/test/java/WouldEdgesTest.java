@@ -16,6 +16,8 @@ public final class WouldEdgesTest {
     private static final Case[] BY_PAGES = {
         new Case(0, "page4 4;frame2 1 0 0 0 0;icon1 3 0 0 0 0;frame4 2 0 0 0 0;",
                 of(1, 2, 2, 2, 2, 2, 2, 2, 2, 2, 2, 2), of(13, 3, 3, 8, 3, 3, 8, 3, 3, 8, 3, 3)),
+        new Case(0, "page16 16;frame8 4 0 0 0 0;icon4 12 0 0 0 0;frame16 8 0 0 0 0;",
+                of(1, 2, 2, 2, 2, 2, 2, 2, 2, 2, 2, 2), of(208, 48, 48, 128, 48, 48, 128, 48, 48, 128, 48, 48)),
         new Case(1, "page7 6;frame1 4 0 0 0 0;icon3 3 0 0 0 0;icon1 3 0 0 0 0;frame5 3 0 0 0 0;icon6 1 0 0 0 0;",
                 of(2, 1, 2, 2, 2, 2, 2, 2, 2, 2, 2, 2), of(6, 37, 3, 6, 3, 3, 6, 6, 9, 6, 6, 9)),
         new Case(2, "page7 7;frame1 4 0 0 0 0;frame4 3 0 0 0 0;frame4 2 0 0 0 0;frame2 2 0 0 0 0;frame6 3 0 0 0 0;",
