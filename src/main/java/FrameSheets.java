@@ -640,7 +640,7 @@ public final class FrameSheets {
         }
 
         /** Only when the whole TEXT is read: bleed may stand behind the FRAMES. */
-        void settle() {
+        void settleFrames() {
             for (int f = 0; f < size; f++) frames[f].settle(bleed);
         }
 
@@ -689,7 +689,7 @@ public final class FrameSheets {
                 if (!readStatement()) return from;
             }
             if (draft.size == 0) return from;
-            draft.settle();
+            draft.settleFrames();
             return NONE;
         }
 
